@@ -1,11 +1,24 @@
 /** Counts the answers that are not as due, and prints each of them. */
 final class Due {
     private int wrong = 0;
+    private String sentence = "";
+
+    /** A sentence of the document with its own test; what is thrown there leaves the other sentences' tests alone. */
+    void sentence(String where, String words, Runnable test) {
+        sentence = where + " \"" + words + "\" ";
+        try {
+            test.run();
+        } catch (RuntimeException e) {
+            wrong++;
+            System.out.println(sentence + "threw " + e);
+        }
+        sentence = "";
+    }
 
     void is(String call, long got, long want) {
         if (got != want) {
             wrong++;
-            System.out.println(call + " answered " + got + ", due is " + want);
+            System.out.println(sentence + call + " answered " + got + ", due is " + want);
         }
     }
 

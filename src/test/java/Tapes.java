@@ -24,12 +24,7 @@ final class Tapes {
 
     /** A volume of n blocks, each with one row of no bytes. */
     static BlockTape blocks(int n) {
-        BlockTape x = new BlockTape();
-        for (int i = 0; i < n; i++) {
-            x.put(i, i);
-            x.close();
-        }
-        return x;
+        return blocksAndRow(n, 0);
     }
 
     /**
@@ -43,6 +38,43 @@ final class Tapes {
         putBytes(x, 12, 1002, 90, 2);
         putBytes(x, 13, 1003, 160, 90);
         putBytes(x, 14, 1004, 7, 4);
+        return x;
+    }
+
+    static void putEmpty(BlockTape x, int n) {
+        for (int i = 0; i < n; i++) {
+            x.put(i % 256, i);
+        }
+    }
+
+    /** A volume of n blocks, each with one row of no bytes, and behind them a row of data bytes (0: none). */
+    static void blocksAndRow(BlockTape x, int n, int data) {
+        for (int i = 0; i < n; i++) {
+            x.put(i, i);
+            x.close();
+        }
+        if (data > 0) {
+            putBytes(x, 200, 20000, 100, data - 6);
+        }
+    }
+
+    static BlockTape blocksAndRow(int n, int data) {
+        BlockTape x = new BlockTape();
+        blocksAndRow(x, n, data);
+        return x;
+    }
+
+    /** Three blocks WRITTEN, record 0 fills block 0, record 1 the next two, and 10 DATA of record 2. */
+    static void threeBlocksAndSome(BlockTape x) {
+        putBytes(x, 20, 2000, 0, 50);
+        putBytes(x, 21, 2001, 56, 106);
+        putBytes(x, 22, 2002, 9, 4);
+    }
+
+    /** One row that fills three blocks: no record begins in the second and the third. */
+    static BlockTape throughBlocks() {
+        BlockTape x = new BlockTape();
+        putBytes(x, 30, 3000, 77, 162);
         return x;
     }
 }
