@@ -1,5 +1,3 @@
-import java.util.zip.CRC32;
-
 /** Promise 7: with it, how a block is made up. */
 public final class ByteOfTest {
     private static final Due due = new Due();
@@ -35,29 +33,11 @@ public final class ByteOfTest {
         BlockTape x = Tapes.spread();
         x.close();
         for (int block = 0; block < 5; block++) {
-            due.is("sum " + block, storedSum(x, block), reckonedSum(x, block));
+            due.is("sum " + block, Sums.stored(x, block), Sums.reckoned(x, block));
         }
         BlockTape last = Tapes.blocks(80);
-        due.is("sum 79", storedSum(last, 79), reckonedSum(last, 79));
+        due.is("sum 79", Sums.stored(last, 79), Sums.reckoned(last, 79));
         due.is("number 79", last.byteOf(79, 1), 79);
-    }
-
-    private static long storedSum(BlockTape x, int block) {
-        long sum = 0;
-        for (int i = 4; i < 8; i++) {
-            sum = sum << 8 | x.byteOf(block, i);
-        }
-        return sum;
-    }
-
-    private static long reckonedSum(BlockTape x, int block) {
-        CRC32 crc = new CRC32();
-        for (int i = 0; i < 64; i++) {
-            if (i < 4 || i > 7) {
-                crc.update(x.byteOf(block, i));
-            }
-        }
-        return crc.getValue();
     }
 
     private static void noneSuch() {
