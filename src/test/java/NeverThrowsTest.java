@@ -67,8 +67,5 @@ public final class NeverThrowsTest {
             }
         });
         asks(state + ", behind the changes", x);
-        due.is(state + ": the limits hold, tape", x.count(0) <= 300, true);
-        due.is(state + ": the limits hold, records", x.count(1) <= 200, true);
-        due.is(state + ": the limits hold, blocks", x.count(2) <= 80, true);
     }
 }
